@@ -34,6 +34,10 @@ public final class KingTable {
     private static final int WON_BY_FIRST = 2;
     private static final int ENDED_DRAWN = 4;
 
+    /** How moves are numbered: so much for each piece, and for each way. */
+    private static final int PIECE_STEP = 32;
+    private static final int WAY_STEP = 8;
+
     private static final int DRAWN = 2;
     private static final int WORTHS = 3;
 
@@ -379,12 +383,6 @@ public final class KingTable {
             this.laws = laws;
         }
 
-        void lay(Told told) {
-            ground.lay(told, laws.goal);
-            total = 0;
-            king = NONE;
-        }
-
         void enlist(int kind) {
             if (total >= MOST_PIECES) {
                 return;
@@ -615,9 +613,8 @@ public final class KingTable {
         }
 
         void start(Told told, int side) {
-            rules.lay(told);
-            now.clear();
-            log.clear();
+            finish();
+            rules.ground.lay(told, laws.goal);
             int size = told.size();
             for (int f = 0; f < size; f++) {
                 int kind = kindOfSign(told.signs[f]);
@@ -996,8 +993,10 @@ public final class KingTable {
         private void spread() {
             for (int i = 0; i < queued && i < queue.length; i++) {
                 int target = queue[i];
-                for (int e = links.heads[target]; e != NONE; e = links.nexts[e]) {
+                int e = links.heads[target];
+                for (int n = 0; n < links.used && e != NONE; n++) {
                     inform(links.sources[e], worths[target], deeps[target] + 1);
+                    e = links.nexts[e];
                 }
             }
         }
@@ -1058,26 +1057,26 @@ public final class KingTable {
             }
             int best = NONE;
             int bestDeep = NONE;
-            for (int p = 0; p < rules.total; p++) {
-                for (int way = 0; rules.sides[p] == s.turn && way < WAYS; way++) {
-                    int room = rules.room(s, p, way);
-                    int to = s.fieldOf(p);
-                    for (int far = 1; far <= room; far++) {
-                        to = rules.ground.beside(to, way);
-                        int deep = deepKept(s, index, p, to);
-                        boolean better = worths[index] == s.turn ? deep < bestDeep : deep > bestDeep;
-                        if (deep != NONE && (best == NONE || better)) {
-                            best = 32 * p + 8 * way + far - 1;
-                            bestDeep = deep;
-                        }
-                    }
+            for (int move = 0; move < PIECE_STEP * rules.total; move++) {
+                int deep = deepKept(s, index, move);
+                boolean better = worths[index] == s.turn ? deep < bestDeep : deep > bestDeep;
+                if (deep != NONE && (best == NONE || better)) {
+                    best = move;
+                    bestDeep = deep;
                 }
             }
             return best;
         }
 
-        /** The DEEP of the stand to which a move leads, or NONE if it doesn't keep the WORTH. */
-        private int deepKept(Stand s, int index, int p, int to) {
+        /** The DEEP of the stand to which a move leads, or NONE if it can't be done or doesn't keep the WORTH. */
+        private int deepKept(Stand s, int index, int move) {
+            int p = move / PIECE_STEP;
+            int way = move % PIECE_STEP / WAY_STEP;
+            int far = move % WAY_STEP + 1;
+            if (!rules.isPiece(p) || rules.sides[p] != s.turn || far > rules.room(s, p, way)) {
+                return NONE;
+            }
+            int to = rules.ground.away(s.fieldOf(p), way, far);
             rules.findVictims(s, p, to);
             int target = behindMove(s, index, p, to);
             boolean kept = target >= 0 && target < 2 * places && worths[target] == worths[index];

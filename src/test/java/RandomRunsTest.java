@@ -20,7 +20,7 @@ public final class RandomRunsTest {
 
     public static void main(String[] args) {
         int wrong = 0;
-        for (int seed = 0; seed < RUNS && wrong < 5; seed++) {
+        for (int seed = 0; seed < RUNS && wrong < 1; seed++) {
             RandomRunsTest run = new RandomRunsTest(seed);
             run.play();
             if (!run.right) {
