@@ -92,6 +92,12 @@ public final class PlayEdgesTest {
         CHECK.due("the first piece is taken", 1, t.go(2, UP, 1));
         CHECK.due("it counts", 1, t.about(3));
         CHECK.due("took(0)", 0, t.took(0));
+        t = Boards.told("...rg..", "...g...", ".....r.", ".......", "...r...", "k......");
+        t.begin(0);
+        t.go(1, DOWN, 2);
+        CHECK.due("two are taken, the one above has the greater number", 2, t.go(4, UP, 2));
+        CHECK.due("took(0)", 1, t.took(0));
+        CHECK.due("took(1)", 2, t.took(1));
     }
 
     private static void why1NoPlayOrOver() {
@@ -556,6 +562,14 @@ public final class PlayEdgesTest {
         t = Boards.told("kr..", "r...", "...x");
         t.begin(1);
         CHECK.due("a ring of two", true, t.ring() && t.needed(1) && t.needed(2));
+        String[] rows = new String[9];
+        Arrays.fill(rows, ".........");
+        rows[0] = "k........";
+        rows[8] = "........r";
+        t = Boards.told(rows);
+        t.begin(0);
+        CHECK.due("80 fields without a goal", true, t.ring());
+        CHECK.due("and 81 without the raider", false, t.needed(1));
     }
 
     private static void backWithoutMoves() {

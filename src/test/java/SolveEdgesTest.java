@@ -15,6 +15,7 @@ public final class SolveEdgesTest {
         solveNumbersThatWrapAround();
         solveCountsTakenPieces();
         solveOnceMore();
+        solvedOneAfterAnother();
         solvedTillBoard();
         solvedTillStop();
         solvedPastRefusedCalls();
@@ -147,6 +148,40 @@ public final class SolveEdgesTest {
                 counted += t.count(k % 3, k / 3);
             }
             Scenes.nothingDone(CHECK, scene, "solve()", counted, KingTable::solve);
+        }
+    }
+
+    /** What an object has solved before leaves nothing behind: it answers as one that has solved this board alone. */
+    private static void solvedOneAfterAnother() {
+        String[][] boards = {
+            {"k.", ".r"}, {"k.x", "r.."}, {"kr.", "..g"}, {"r..", ".K.", ".cx"}, {"xk.", "..r"}, {"k.", ".r"}, {"kr", "gc"},
+            {"k..x", "r.g.", "...."}, {"kr.", "x.."}, {"k..x", "r.g.", "...."}
+        };
+        KingTable all = new KingTable();
+        for (String[] rows : boards) {
+            KingTable one = new KingTable();
+            Boards.tell(one, rows);
+            Boards.tell(all, rows);
+            String where = String.join("/", rows);
+            CHECK.due(where + ": begin(1)", one.begin(1), all.begin(1));
+            CHECK.due(where + ": solve()", one.solve(), all.solve());
+            for (int side = 0; side < 2; side++) {
+                CHECK.due(where + ": most(" + side + ")", one.most(side), all.most(side));
+                for (int worth = 0; worth < 3; worth++) {
+                    CHECK.due(where + ": count(" + worth + ", " + side + ")", one.count(worth, side), all.count(worth, side));
+                }
+            }
+            CHECK.due(where + ": deep()", one.deep(), all.deep());
+            CHECK.due(where + ": best()", one.best(), all.best());
+        }
+        int won = all.count(0, 0);
+        int most = all.most(0);
+        for (int i = 0; i < 40; i++) {
+            all.stop();
+            all.begin(1);
+            CHECK.due("solved " + i + " times more: solve()", counting(11, 3) + counting(11, 2), all.solve());
+            CHECK.due("solved " + i + " times more: count(0, 0)", won, all.count(0, 0));
+            CHECK.due("solved " + i + " times more: most(0)", most, all.most(0));
         }
     }
 

@@ -490,6 +490,13 @@ public final class TermsEdgesTest {
         t.go(1, UP, 1);
         CHECK.due("the king and the raider where they were", 0, t.go(2, RIGHT, 2));
         CHECK.due("but a guard elsewhere", 1, t.about(0));
+        t = Boards.told(".g.", "k..", "..r");
+        t.begin(0);
+        t.go(1, RIGHT, 1);
+        t.go(2, LEFT, 1);
+        t.go(1, LEFT, 1);
+        t.go(2, RIGHT, 1);
+        CHECK.due("a guard has stood by all the while", 4, t.about(0));
         t = lawful(0, 4, false, 0, 0, ".k.", "g..", "..r");
         t.begin(1);
         t.go(2, LEFT, 1);
