@@ -624,8 +624,8 @@ public final class PlayEdgesTest {
 
     /** As many moves as the 512 calls of an object leave room for, and half as many done and taken back. */
     private static void longPlays() {
-        KingTable t = longPlay(505);
-        CHECK.due("505 moves", 505, t.about(4));
+        KingTable t = longPlay(506);
+        CHECK.due("506 moves, told by the 512th call", 506, t.about(4));
         t = longPlay(252);
         for (int i = 0; i < 252; i++) {
             CHECK.due("back " + i + " of 252", true, t.back());
