@@ -439,6 +439,10 @@ public final class SolveEdgesTest {
         int raider = 5;
         CHECK.due("the king is taken before side 1 can't go", 1, t.stand(4 + 4 * raider, 1));
         CHECK.due("the king is taken before side 0 can't go", 1, t.stand(4 + 0 * raider, 0));
+        t = solvedBy(0, 4, 0, "kg", ".r");
+        for (int side = 0; side < 2; side++) {
+            CHECK.due("the king is taken, his guard could go on", 1, t.stand(4 + 0 * 5 + 3 * 25, side));
+        }
         t = solvedBy(1, 4, 0, "kr", "r.");
         CHECK.due("a goal before side 0 can't go", 0, t.worth());
         CHECK.due("and so as a stand", 0, t.stand(0 + 1 * 5 + 2 * 25, 0));

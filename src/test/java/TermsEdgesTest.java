@@ -522,6 +522,11 @@ public final class TermsEdgesTest {
         t.begin(1);
         t.go(2, UP, 1);
         CHECK.due("the king is taken, side 0 has none left to go: won by side 1", 3, t.about(0));
+        t = lawful(0, 2, true, 0, 0, "rk..", "..r.", "g...");
+        t.begin(1);
+        CHECK.due("a king whose guard could go on", 1, t.go(2, UP, 1));
+        CHECK.due("has lost all the same", 3, t.about(0));
+        CHECK.due("and the guard doesn't go", 1, t.why(3, RIGHT, 1));
         t = lawful(0, 2, true, 0, 0, "gk.r", "x...", "....");
         t.begin(1);
         CHECK.due("his guard stays beside him", 0, t.go(2, LEFT, 1));
